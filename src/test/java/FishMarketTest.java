@@ -61,6 +61,7 @@ public final class FishMarketTest {
         x.pass(2);
         Check.call("closed no more", x, y -> y.closed(), 0);
         Check.call("made in the last closed hour", x, y -> y.made(9), 0);
+        Check.call("found anew in the last closed hour", x, y -> y.madeAnew(9), 0);
         x.pass(1);
         Check.call("made in the first open hour", x, y -> y.made(10), 60 * 4 * 992 / 8000);
         for (int fish : new int[] {-1, 1001, FAR, DEEP}) {
