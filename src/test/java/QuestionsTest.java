@@ -268,14 +268,21 @@ public final class QuestionsTest {
             money = sellAndBuyAllBack(x, money);
         }
         Check.due("money is above 2 to the 24", money > 16777216f, true);
-        for (int odd = 1; odd < 30; odd += 2) {
-            x.sell(x.now(), odd, 1);
-            money = money + (float) odd;
-            dueMoney("money() of odd sales", x, money);
+        float before = money;
+        for (int sale = 0; sale < 20; sale++) {
+            x.sell(x.now(), 1, 1);
+            money = money + 1f;
+            dueMoney("money() of sales too small to count", x, money);
         }
-        Check.due("steps of 1, 3, .. were rounded", money == 19104225f, false);
+        Check.due("each sale of 1 was rounded away", money == before, true);
+        for (int sale = 0; sale < 20; sale++) {
+            x.sell(x.now() + 1, 3, 1);
+            money = money + 3f;
+            dueMoney("money() of sales of 3", x, money);
+        }
+        Check.due("each sale of 3 was rounded", money == before + 60f, false);
         x.pass(1);
-        dueMoney("money() of odd units bought", x, money - 225f);
+        dueMoney("money() of 20 bought", x, money - 20f);
     }
 
     private static float sellAndBuyAllBack(TidegateBourse x, float before) {
@@ -285,13 +292,13 @@ public final class QuestionsTest {
             x.sell(hour, 500, 200);
             x.sell(hour, 500, 199);
             money = money + 100000f + 99500f;
-            dueMoney("money() of large sales", x, money);
         }
+        dueMoney("money() of large sales", x, money);
+        x.pass(48);
         for (int hour = 0; hour < 48; hour++) {
-            x.pass(1);
             money = money - 1000f;
-            dueMoney("money() of 1000 bought", x, money);
         }
+        dueMoney("money() of 1000 bought for each of 48 hours", x, money);
         return money;
     }
 

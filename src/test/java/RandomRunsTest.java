@@ -3,6 +3,7 @@ public final class RandomRunsTest {
     private static final String[] NAMES = {"tide", "price", "wind", "turbine", "gate", "repair", "run", "limit", "sell",
         "pass", "now", "made", "madeAnew", "sold", "bought", "head", "about", "closed", "money"};
     private static final int RUNS = 3000;
+    private static final int RICH_RUNS = 200;
     private static final int CALLS = 512;
     private static final int[] WILD = {Integer.MIN_VALUE, Integer.MAX_VALUE, -1, -101, 1001, 501, 548, 0};
 
@@ -11,6 +12,9 @@ public final class RandomRunsTest {
     public static void main(String[] args) {
         for (int run = 0; run < RUNS; run++) {
             new RandomRunsTest(run).compare(run);
+        }
+        for (int run = 0; run < RICH_RUNS; run++) {
+            new RandomRunsTest(RUNS + run).compareRich(run);
         }
         Check.end();
     }
@@ -48,13 +52,39 @@ public final class RandomRunsTest {
         int longest = 1 + below(24);
         for (int call = 0; call < CALLS; call++) {
             int method = call < 8 ? 3 + below(2) : below(NAMES.length);
-            int now = x.now();
-            int a = first(method, now, longest);
-            int b = second(method);
-            int c = about(1, 200);
-            String what = "run " + run + ", call " + call + ": " + NAMES[method] + "(" + a + ", " + b + ", " + c + ")";
-            Check.due(what, answer(x, method, a, b, c), model.answer(method, a, b, c));
+            int a = first(method, x.now(), longest);
+            compareCall("run " + run + ", call " + call, x, model, new int[] {method, a, second(method), about(1, 200)});
         }
+    }
+
+    /** Money above 2 to the 24, where a float rounds the small steps, comes of large sales that are bought back cheaply. */
+    private void compareRich(int run) {
+        TidegateBourse x = new TidegateBourse();
+        Model model = new Model();
+        for (int call = 0; call < CALLS; call++) {
+            int[] drawn = {8, x.now() + below(48), 450 + below(51), 190 + below(11)};
+            if (call < 24) {
+                drawn = new int[] {1, call, 1 + below(3), 0};
+            } else if (call < 30) {
+                drawn = new int[] {call < 28 ? 3 : 4, below(4), 1 + below(7), 0};
+            } else if (below(8) == 0) {
+                drawn = new int[] {9, 1 + below(6), 0, 0};
+            } else if (below(6) == 0) {
+                drawn = new int[] {8, x.now() + below(48), 1 + below(5), 1 + below(3)};
+            } else if (below(6) == 0) {
+                drawn = new int[] {18, 0, 0, 0};
+            }
+            compareCall("rich run " + run + ", call " + call, x, model, drawn);
+        }
+    }
+
+    private static void compareCall(String where, TidegateBourse x, Model model, int[] drawn) {
+        int method = drawn[0];
+        int a = drawn[1];
+        int b = drawn[2];
+        int c = drawn[3];
+        String what = where + ": " + NAMES[method] + "(" + a + ", " + b + ", " + c + ")";
+        Check.due(what, answer(x, method, a, b, c), model.answer(method, a, b, c));
     }
 
     private int first(int method, int now, int longest) {
