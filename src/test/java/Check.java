@@ -10,6 +10,7 @@ final class Check {
 
     private static int compared = 0;
     private static int wrong = 0;
+    private static String sentence = "";
 
     interface Call {
         Object on(TidegateBourse x);
@@ -26,11 +27,16 @@ final class Check {
         }
     }
 
+    /** The document's sentence that the comparisons behind this call are about: a wrong one is told with it. */
+    static void sentence(String words) {
+        sentence = "\"" + words + "\": ";
+    }
+
     static void due(String what, Object got, Object want) {
         compared++;
         if (!String.valueOf(want).equals(String.valueOf(got))) {
             wrong++;
-            System.out.println(what + " answered " + got + ", due is " + want);
+            System.out.println(sentence + what + " answered " + got + ", due is " + want);
         }
     }
 
@@ -43,6 +49,19 @@ final class Check {
         TidegateBourse x = maker.get();
         due(what, answer(x, call), want);
         due("after " + what, trace(x), trace(maker.get()));
+    }
+
+    static TidegateBourse at(int hour) {
+        TidegateBourse x = new TidegateBourse();
+        passTo(x, hour);
+        return x;
+    }
+
+    /** Counts by itself, so that it ends also when pass or now is broken. */
+    static void passTo(TidegateBourse x, int hour) {
+        for (int left = hour - x.now(); left > 0; left -= 48) {
+            x.pass(Math.min(48, left));
+        }
     }
 
     static int bits(float value) {

@@ -3,7 +3,7 @@ import java.util.HashMap;
 import java.util.List;
 import java.util.Map;
 
-/** The document once more, in another form than the class: it remembers what was told and works out all else when asked. */
+/** The document once more, in another form than the class: what was told is kept in maps and lists. */
 final class Model {
     private static final class Turbine {
         private int gate;

@@ -53,11 +53,12 @@ public final class RandomRunsTest {
         for (int call = 0; call < CALLS; call++) {
             int method = call < 8 ? 3 + below(2) : below(NAMES.length);
             int a = first(method, x.now(), longest);
-            compareCall("run " + run + ", call " + call, x, model, new int[] {method, a, second(method), about(1, 200)});
+            int[] drawn = {method, a, second(method), about(1, 200)};
+            compareCall("run " + run + ", call " + call, x, model, drawn);
         }
     }
 
-    /** Money above 2 to the 24, where a float rounds the small steps, comes of large sales that are bought back cheaply. */
+    /** Money above 2 to the 24, where a float rounds small steps, comes of large sales that are bought back cheaply. */
     private void compareRich(int run) {
         TidegateBourse x = new TidegateBourse();
         Model model = new Model();
