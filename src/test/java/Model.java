@@ -45,6 +45,10 @@ final class Model {
         }
     }
 
+    int now() {
+        return past.size();
+    }
+
     private String question(int method, int a, int b) {
         switch (method) {
             case 10: return "" + past.size();

@@ -52,7 +52,7 @@ public final class RandomRunsTest {
         int longest = 1 + below(24);
         for (int call = 0; call < CALLS; call++) {
             int method = call < 8 ? 3 + below(2) : below(NAMES.length);
-            int a = first(method, x.now(), longest);
+            int a = first(method, model.now(), longest);
             int[] drawn = {method, a, second(method), about(1, 200)};
             compareCall("run " + run + ", call " + call, x, model, drawn);
         }
@@ -63,7 +63,7 @@ public final class RandomRunsTest {
         TidegateBourse x = new TidegateBourse();
         Model model = new Model();
         for (int call = 0; call < CALLS; call++) {
-            int[] drawn = {8, x.now() + below(48), 450 + below(51), 190 + below(11)};
+            int[] drawn = {8, model.now() + below(48), 450 + below(51), 190 + below(11)};
             if (call < 24) {
                 drawn = new int[] {1, call, 1 + below(3), 0};
             } else if (call < 30) {
@@ -71,7 +71,7 @@ public final class RandomRunsTest {
             } else if (below(8) == 0) {
                 drawn = new int[] {9, 1 + below(6), 0, 0};
             } else if (below(6) == 0) {
-                drawn = new int[] {8, x.now() + below(48), 1 + below(5), 1 + below(3)};
+                drawn = new int[] {8, model.now() + below(48), 1 + below(5), 1 + below(3)};
             } else if (below(6) == 0) {
                 drawn = new int[] {18, 0, 0, 0};
             }
